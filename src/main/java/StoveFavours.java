@@ -44,7 +44,8 @@ public final class StoveFavours {
         contest = new Contest();
         rounds = new Rounds();
         seedNow = 0;
-        now.moveInto(home);
+        // a home of its own, for a constructor hands out nothing of what it makes
+        now.moveInto(new Home());
     }
 
     // ---- the house

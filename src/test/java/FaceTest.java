@@ -13,6 +13,7 @@ public final class FaceTest {
     public static void main(String[] args) {
         constants();
         methods();
+        privateNames();
         checks.due("public final class", StoveFavours.class.getModifiers(), Modifier.PUBLIC | Modifier.FINAL);
         checks.due("constructors", StoveFavours.class.getDeclaredConstructors().length, 1);
         checks.due("public constructor", StoveFavours.class.getDeclaredConstructors()[0].getModifiers(), Modifier.PUBLIC);
@@ -45,5 +46,21 @@ public final class FaceTest {
             checks.due(name, shown.getOrDefault(name, 0), Modifier.PUBLIC);
         }
         checks.due("methods that are not private", shown.size(), face.length);
+    }
+
+    /** Rule 1 of LANGUAGE.md: no other method bears the name of a public one. */
+    private static void privateNames() {
+        String face = " " + FACE.replaceAll("[0-9]", "") + " ";
+        for (Method method : StoveFavours.class.getDeclaredMethods()) {
+            if (Modifier.isPrivate(method.getModifiers())) {
+                checks.due("public name of " + method.getName(), face.contains(" " + method.getName() + " ") ? 1 : 0, 0);
+            }
+        }
+        for (Class<?> inner : StoveFavours.class.getDeclaredClasses()) {
+            checks.due(inner.getName() + " is static", Modifier.isStatic(inner.getModifiers()) ? 1 : 0, 1);
+            for (Method method : inner.getDeclaredMethods()) {
+                checks.due("public name of " + method.getName(), face.contains(" " + method.getName() + " ") ? 1 : 0, 0);
+            }
+        }
     }
 }

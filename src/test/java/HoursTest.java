@@ -1,6 +1,6 @@
 /** Promises 8 to 13: hours with and without doings, by draws, logs, laws, undone. */
 public final class HoursTest {
-    private static final int UNKNOWN = StoveFavours.UNKNOWN, OUTSIDE = StoveFavours.OUTSIDE, NOT = StoveFavours.NOT;
+    private static final int UNKNOWN = StoveFavours.UNKNOWN, OUTSIDE = StoveFavours.OUTSIDE, NOT = StoveFavours.NOT, FULL = StoveFavours.FULL;
     private static final Checks checks = new Checks("HoursTest");
 
     public static void main(String[] args) {
@@ -15,6 +15,7 @@ public final class HoursTest {
         changingLaws();
         undoing();
         ringOfHours();
+        lastHour();
         checks.finish();
     }
 
@@ -227,5 +228,30 @@ public final class HoursTest {
         checks.due("sit(31)", x.sit(31), 1);
         checks.due("undo(30)", x.undo(30), 12);
         checks.due("person(1, 2)", x.person(1, 2), 11);
+    }
+
+    /** Promises 8 to 10: FULL. No 512 calls reach that hour; the object holds to it all the same. */
+    private static void lastHour() {
+        StoveFavours x = checks.houseOf("p99 1;p0 0;d0 1 0;s1 1 1;", 2);
+        for (int k = 0; k < 909; k++) {
+            x.sit(99);
+        }
+        checks.due("sit(9)", x.sit(9), 1);
+        checks.due("told(2)", x.told(2), 90000);
+        checks.due("act(0, 0)", x.act(0, 0), 0);
+        checks.due("stack(0)", x.stack(0), 0);
+        checks.due("act(0, 0)", x.act(0, 0), NOT);
+        checks.due("stack(5)", x.stack(5), 5);
+        checks.due("act(0, 0)", x.act(0, 0), FULL);
+        checks.due("act(0, 2)", x.act(0, 2), UNKNOWN);
+        checks.due("sit(1)", x.sit(1), FULL);
+        checks.due("sit(0)", x.sit(0), OUTSIDE);
+        checks.due("drift(1)", x.drift(1), FULL);
+        checks.due("drift(0)", x.drift(0), OUTSIDE);
+        checks.due("told(2)", x.told(2), 90001);
+        checks.due("undo(1)", x.undo(1), 90000);
+        checks.due("sit(99)", x.sit(99), 1);
+        checks.due("told(2)", x.told(2), 90099);
+        checks.due("undo(30)", x.undo(30), 90069);
     }
 }

@@ -157,6 +157,9 @@ public final class HouseTest {
         checks.feedAll(x, "x");
         checks.due("house()", x.house(), -11);
         checks.due("goBack(1)", x.goBack(1), 1);
+        checks.feedAll(x, " p1 1;");
+        checks.due("house()", x.house(), 1);
+        checks.due("fault() behind a good text", x.fault(), -1);
     }
 
     /** Promise 3: without a fault all begins again, but the seed. */

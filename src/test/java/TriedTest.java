@@ -16,6 +16,7 @@ public final class TriedTest {
         duelRefusals();
         forEverLaps();
         forEverIgnoresWarmthAndLogs();
+        forEverAgain();
         forEverRefusals();
         leftAndDoers();
         chairs();
@@ -90,6 +91,9 @@ public final class TriedTest {
         favour(x, 2, 2, 2, new int[] {99, 2});
         favour(x, 2, 3, 2, new int[] {99, 99, 2});
         favour(x, 1, 3, 1, new int[] {99, 99, 10});
+        // law 2 makes 2 in the first hour alone; 99, 0, 0 comes ahead of it by law 1, but has two doings
+        StoveFavours early = checks.houseOf("p50 0;p6 5;p5 0;d0 0 1;d1 0 2;s0 5 0;", 3);
+        favour(early, 2, 3, 0, new int[] {10, 99, 99});
     }
 
     /** Promise 15: of like ones none ahead of all, then doing by doing, person by person. */
@@ -240,6 +244,19 @@ public final class TriedTest {
         x.write(0, 2);
         x.write(1, 0);
         lap(x, 1, new int[] {1, 0, 1}, 1);
+    }
+
+    /** Promises 18 and 19: the same answers however often they are asked, with a full book, too. */
+    private static void forEverAgain() {
+        StoveFavours x = checks.houseOf("p50 1;p50 1;p50 1;d0 9 0;d1 9 3;s1 5 0;", 3);
+        for (int k = 0; k < 19; k++) {
+            x.write(k == 3 ? 0 : 2, 1);
+        }
+        x.write(1, 0);
+        // each round: three hours of who it was, sixteen of 1, one of 0 and 2 by turns
+        for (int k = 0; k < 100; k++) {
+            lap(x, 2, new int[] {4, 32, 4}, 28);
+        }
     }
 
     private static void forEverRefusals() {
