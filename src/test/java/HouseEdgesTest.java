@@ -29,6 +29,7 @@ public final class HouseEdgesTest {
         sideBySide();
         firstFault();
         faultAtTheEnd();
+        faultAtTheEndBehindLonger();
         leastFault();
         letterThatCannotStand();
         numberOutOfBounds();
@@ -305,6 +306,27 @@ public final class HouseEdgesTest {
                 checks.faulty(part, 1, length);
                 checks.faulty(part + "  ", 1, length + 2);
             }
+        }
+    }
+
+    /** Where a text ends, a longer one ahead of it had letters that would go on: none of them counts. */
+    private static void faultAtTheEndBehindLonger() {
+        checks.sentence("(the end at the text's length)");
+        String text = "p12 3;d4 5 6;s0 7 8;";
+        for (String filler : new String[] {" ", "1", ";", "p"}) {
+            for (int length = 1; length < text.length(); length++) {
+                String part = text.substring(0, length);
+                StoveFavours x = new StoveFavours();
+                checks.feedAll(x, filler.repeat(200));
+                x.house();
+                checks.feedAll(x, part);
+                checks.due("house() of \"" + part + "\"", x.house(), part.endsWith(";") ? 1 : -11);
+                checks.due("fault() of \"" + part + "\"", x.fault(), part.endsWith(";") ? NONE : length);
+            }
+            StoveFavours x = new StoveFavours();
+            checks.feedAll(x, filler.repeat(200));
+            x.house();
+            checks.due("house() of nothing", x.house(), 0);
         }
     }
 

@@ -43,6 +43,7 @@ public final class TriedEdgesTest {
         forEverWarmth();
         forEverOrder();
         forEverRounds();
+        forEverOfOne();
         forEverPersons();
         forEverLongest();
         forEverFullBook();
@@ -389,6 +390,26 @@ public final class TriedEdgesTest {
         duel(x, 0, 1, 1, 2, 0);
         duel(x, 0, 1, 2, 1, 1);
         duel(x, 1, 0, 1, 1, 1);
+        // of four hours each has its own warmth: by LAW 2 alone whoever it leaves is the coldest soon
+        StoveFavours four = checks.houseOf("p9 4;p8 3;p7 9;d0 0 2;s0 3 0;", 3);
+        duelsAsPlain(four, "p9 4;p8 3;p7 9;d0 0 2;s0 3 0;");
+    }
+
+    /** All duels of three, each hour's number, as PlainStove has them. */
+    private static void duelsAsPlain(StoveFavours x, String text) {
+        PlainStove plain = new PlainStove();
+        for (int k = 0; k < text.length(); k++) {
+            plain.feed(text.charAt(k));
+        }
+        plain.house();
+        for (int k = 0; k < 36; k++) {
+            int a = k % 3;
+            int b = k / 3 % 3;
+            int n = k / 9 + 1;
+            if (a != b) {
+                duel(x, a, b, n, plain.duel(a, b, n, 0), plain.duel(a, b, n, 1));
+            }
+        }
     }
 
     private static void duelLogs() {
@@ -506,6 +527,15 @@ public final class TriedEdgesTest {
         lap(tail, 1, 3, 3, 0, 0);
     }
 
+    private static void forEverOfOne() {
+        checks.sentence("are as they were behind fewer rounds (none, too): how many rounds ago that was;");
+        StoveFavours alone = checks.houseOf("p50 1;", 1);
+        write(alone, 0, 10, 20);
+        lap(alone, 1, 0, 3);
+        checks.due("sit(1)", alone.sit(1), 0);
+        lap(alone, 1, 0, 3);
+    }
+
     private static void forEverPersons() {
         checks.sentence("FOR EVER: p = NONE how many rounds, else hours of a PERSON; NONE.");
         StoveFavours x = checks.houseOf("p50 1;p50 1;d0 0 0;", 2);
@@ -560,13 +590,6 @@ public final class TriedEdgesTest {
             x.write(0, 2);
         }
         checks.due("fair(), 0 0 20", x.fair(), 20);
-        checks.due("one alone", fairOfOne(), 0);
-    }
-
-    private static int fairOfOne() {
-        StoveFavours alone = checks.houseOf("p50 1;", 1);
-        alone.write(0, 0);
-        return alone.fair();
     }
 
     private static void leftPlaces() {
