@@ -881,7 +881,9 @@ public final class StoveFavours {
         private final Shelf stoves = new Shelf(PLANNED + 1);
         private final Row row = new Row(PLANNED);
         private final Row best = new Row(PLANNED);
-        private final Row cheapest = new Row(PLANNED * PEOPLE);
+        // of each hour and person: the first thing that makes it the darling for the fewest logs, and these
+        private final Row things = new Row(PLANNED * PEOPLE);
+        private final Row costs = new Row(PLANNED * PEOPLE);
         private int hours = 0;
         private int wanted = NONE;
         private int purse = 0;
@@ -907,38 +909,72 @@ public final class StoveFavours {
             return i == NONE ? bestLogs : best.at(i);
         }
 
-        /** Goes through all rows in their order, so that of like ones the first is found first. */
+        /** Goes through the rows in their order, so that of like ones the first is found first. */
         private void search(Home home, int depth, int logs, int doings) {
             if (depth >= hours) {
-                found = true;
-                bestLogs = logs;
-                bestDoings = doings;
-                best.copyFrom(row);
+                takeRow(logs, doings);
                 return;
             }
-            for (int p = 0; p < home.people; p++) {
-                cheapest.put(depth * PEOPLE + p, MOST_COST + 1);
+            gatherThings(home, depth);
+            int next = madeBehind(depth, NONE - 1, home.people);
+            for (int k = 0; k < PEOPLE && next != NONE; k++) {
+                int thing = things.at(depth * PEOPLE + next);
+                int cost = costs.at(depth * PEOPLE + next);
+                row.put(depth, thing == NONE ? NO_THING : thing);
+                goOn(home, depth, next, logs + cost, thing == NONE ? doings : doings + 1);
+                next = madeBehind(depth, thing, home.people);
             }
+        }
+
+        private void takeRow(int logs, int doings) {
+            found = true;
+            bestLogs = logs;
+            bestDoings = doings;
+            best.copyFrom(row);
+        }
+
+        /** One thing a person is enough: what makes the same darling for more logs, or later, is never better. */
+        private void gatherThings(Home home, int depth) {
             Stove before = stoves.at(depth);
-            row.put(depth, NO_THING);
-            consider(home, depth, before.darling, 0, logs, doings);
+            for (int p = 0; p < home.people; p++) {
+                costs.put(depth * PEOPLE + p, MOST_COST + 1);
+            }
+            offer(depth, before.darling, NONE, 0);
             for (int e = 0; e < DOINGS; e++) {
                 for (int p = 0; p < home.people; p++) {
-                    row.put(depth, 10 * e + p);
-                    consider(home, depth, before.chosenBy(e, p, home.people), home.costs.at(e), logs, doings + 1);
+                    offer(depth, before.chosenBy(e, p, home.people), 10 * e + p, home.costs.at(e));
                 }
             }
         }
 
-        /** Goes on behind one thing in this hour, if that can still lead to a better row. */
-        private void consider(Home home, int depth, int next, int cost, int logsBefore, int doings) {
-            int logs = logsBefore + cost;
+        private void offer(int depth, int next, int thing, int cost) {
             int mark = depth * PEOPLE + next;
-            // what makes the same darling for no fewer logs than an earlier thing is never better
-            if (logs > purse || !isBetter(logs, doings) || cost >= cheapest.at(mark)) {
+            if (cost < costs.at(mark)) {
+                costs.put(mark, cost);
+                things.put(mark, thing);
+            }
+        }
+
+        /** Whom the first thing behind that one makes the darling; NONE: there is no such thing. */
+        private int madeBehind(int depth, int thing, int people) {
+            int made = NONE;
+            int first = 0;
+            for (int p = 0; p < people; p++) {
+                int mark = depth * PEOPLE + p;
+                int other = things.at(mark);
+                if (costs.at(mark) <= MOST_COST && other > thing && (made == NONE || other < first)) {
+                    made = p;
+                    first = other;
+                }
+            }
+            return made;
+        }
+
+        /** Goes on behind one thing in this hour, if that can still lead to a better row. */
+        private void goOn(Home home, int depth, int next, int logs, int doings) {
+            if (logs > purse || !isBetter(logs, doings)) {
                 return;
             }
-            cheapest.put(mark, cost);
             Stove after = stoves.at(depth + 1);
             after.copyFrom(stoves.at(depth));
             after.warmOnly(home, next);
